@@ -22,6 +22,8 @@ public final class SilentAfter {
     private static final int MOST_TURNS = 99;
     // A glass may stand below 0, and a negative answer is a refusal: so glasses are told with this on top.
     private static final int TOLD_ABOVE = 1000;
+    // No talk takes as many seconds as this.
+    private static final int NO_LIMIT = 1000000000;
 
     private final Scene now = new Scene();
     private final Scene firstImage = new Scene();
@@ -154,7 +156,7 @@ public final class SilentAfter {
         if (!isWithin(i, -2, now.talk.count() - 1)) {
             return NONE;
         }
-        int seconds = search.fewestSeconds(now.talk, now.valley, Integer.MAX_VALUE);
+        int seconds = search.fewestSeconds(now.talk, now.valley, NO_LIMIT);
         if (i == -1) {
             return seconds;
         }
@@ -165,7 +167,7 @@ public final class SilentAfter {
         if (!isWithin(s, 1, MOST_SECONDS) || !isWithin(what, 0, 1)) {
             return OUTSIDE;
         }
-        int fewest = Integer.MAX_VALUE;
+        int fewest = NO_LIMIT;
         int first = 0;
         for (int person = 0; person < PEOPLE; person++) {
             trial.copy(now.valley);
@@ -191,8 +193,8 @@ public final class SilentAfter {
         int end = now.valley.time() + t;
         int over = 0;
         int silent = 0;
-        // A saying takes a second at least, so no more than t are over, and one is begun.
-        for (int turn = 0; turn <= t; turn++) {
+        // A saying takes a second at least, so that no more than t are over.
+        for (int turn = 0; turn < t; turn++) {
             int speaker = turn % 2 == 0 ? person : other;
             int d = turn % 2 == 0 ? a : b;
             int left = end - trial.time();
@@ -279,7 +281,8 @@ public final class SilentAfter {
         trial.copy(now.valley);
         int ready = text.readySeconds(person, trial, people);
         int divisor = commonDivisor(ready, seconds);
-        if (seconds <= 0 || divisor <= 0) {
+        // It is 0 when both are: the text takes no time.
+        if (divisor <= 0) {
             return LOST + FULL;
         }
         return (part == 0 ? ready : seconds) / divisor;
@@ -827,7 +830,7 @@ public final class SilentAfter {
 
         /** The fewest seconds, if less than the limit, else the limit; the first such order is kept then. */
         int fewestSeconds(Talk talk, Valley from, int limit) {
-            Valley first = valleys[0];
+            Valley first = valleyAt(0);
             if (first == null) {
                 return limit;
             }
@@ -843,10 +846,8 @@ public final class SilentAfter {
         }
 
         private void goOn(Talk talk, int depth) {
-            if (depth < 0 || depth >= valleys.length) {
-                return;
-            }
-            Valley here = valleys[depth];
+            // There is no valley deeper than the longest talk.
+            Valley here = valleyAt(depth);
             if (here == null || leastSeconds(talk, here) >= fewest) {
                 return;
             }
@@ -863,10 +864,7 @@ public final class SilentAfter {
         }
 
         private void sayNext(Talk talk, int i, Valley here, int depth) {
-            if (depth < 0 || depth + 1 >= valleys.length) {
-                return;
-            }
-            Valley then = valleys[depth + 1];
+            Valley then = valleyAt(depth + 1);
             if (then == null) {
                 return;
             }
@@ -878,6 +876,10 @@ public final class SilentAfter {
             put(said, i, 1);
             goOn(talk, depth + 1);
             put(said, i, 0);
+        }
+
+        private Valley valleyAt(int depth) {
+            return depth >= 0 && depth < valleys.length ? valleys[depth] : null;
         }
 
         private boolean mayBeSaid(Talk talk, int i) {

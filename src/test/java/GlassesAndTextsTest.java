@@ -148,6 +148,7 @@ public final class GlassesAndTextsTest {
         SilentAfter x = Checks.write(Checks.behind(ahead), text);
         String before = ahead.length() + " " + x.told(1) + " " + x.told(10);
         due("6: judge of \"" + text + "\" behind \"" + ahead + "\"", x.judge(), want);
+        due("6: judge of it again", x.judge(), want);
         due("6: judge changes nothing", before.equals(ahead.length() + " " + x.told(1) + " " + x.told(10)) ? 1 : 0, 1);
     }
 

@@ -15,6 +15,7 @@ public final class NotToldTest {
         promise22();
         promise23();
         promise24();
+        rowsOfImages();
         promise25();
         CHECKS.end();
     }
@@ -112,7 +113,20 @@ public final class NotToldTest {
         burns("", "A5B5", 0, 0, 1);
         burns("", "A5B5", 1, 1, 2);
         burns("", "A5B6", 0, 1, 11);
+        burns("", "A5B6", 2, 1, 1);
+        burns("", "A5B6.4", 1, 8, 15);
+        burns("", "A5B6.4", 0, 1, 3);
+        burns("", ".1", 0, 1, 1);
+        burns("", "A1", 0, 0, 1);
         burns("", "A5.9", 0, 2, 7);
+        SilentAfter y = Checks.write(new SilentAfter(), "A9.9");
+        due("21: ahead of another text", y.burns(0, 1), 1);
+        Checks.write(y, ",.9");
+        due("21: a night where a saying was", y.burns(0, 0), 1);
+        due("21: a night where a saying was", y.burns(0, 1), 1);
+        Checks.write(y, "A2.2,.8");
+        due("21: some nights", y.burns(0, 0), 2);
+        due("21: some nights", y.burns(0, 1), 3);
         burns("", "A5,.5", 0, 1, 2);
         burns("", "A!5.15", 0, 1, 4);
         burns("A5", "A!5.15", 0, 0, 1);
@@ -138,11 +152,16 @@ public final class NotToldTest {
 
     private static void promise22() {
         SilentAfter x = new SilentAfter();
-        // 74: C says 4; 5624: C owes; 28660: E says 8; 52490: C owes still.
+        // 74: C says 4; 5624: C owes 4; 28652: C owes 3; 51790: E says 1; 17641: B, who has saved 7, says 7;
+        // 12409: B says 8; 13231: B owes 8.
         due("22: year(0, 1, 2)", x.year(0, 1, 2), 1);
         due("22: year(0, 2, 2)", x.year(0, 2, 2), 1);
         due("22: year(0, 3, 4)", x.year(0, 3, 4), 0);
         due("22: year(0, 4, 4)", x.year(0, 4, 4), 1);
+        due("22: year(0, 4, 1)", x.year(0, 4, 1), 0);
+        due("22: year(0, 5, 1)", x.year(0, 5, 1), 1);
+        due("22: year(0, 6, 1)", x.year(0, 6, 1), 2);
+        due("22: year(0, 7, 1)", x.year(0, 7, 1), 2);
         due("22: year(77, 99, 0)", x.year(77, 99, 0), 19);
         due("22: year(77, 99, 5)", x.year(77, 99, 5), 12);
         String before = Checks.everything(x);
@@ -212,6 +231,44 @@ public final class NotToldTest {
         due("24: done behind it", x.done(), 1);
         due("24: the image is kept still", x.restore(1), 1);
         CHECKS.unchanged("24: restored again", x, before);
+    }
+
+    private static void rowsOfImages() {
+        SilentAfter x = new SilentAfter();
+        x.saying(0, 2, -1);
+        x.saying(1, 5, 0);
+        x.seen(1, 5);
+        x.seen(0, -5);
+        x.image(0);
+        x.drop();
+        x.saying(2, 9, -1);
+        x.saying(2, 50, -1);
+        x.forget();
+        x.seen(3, 1);
+        x.seen(4, 1);
+        x.image(1);
+        x.restore(0);
+        Checks.write(x, "?5");
+        due("24: the sights of 0", x.filled(0), 1);
+        due("24: the talk of 0", x.soonest(-1), 7);
+        due("24: a third saying", x.saying(1, 1, 1), 3);
+        due("24: one behind the other", x.soonest(0), 0);
+        due("24: one behind the other", x.soonest(1), 1);
+        x.restore(1);
+        due("24: the sights of 1", x.filled(-1), 0);
+        due("24: the talk of 1", x.soonest(-1), 68);
+        x.restore(0);
+        due("24: two sayings again", x.told(4), 2);
+        x.drop();
+        x.saying(0, 9, -1);
+        x.saying(0, 1, -1);
+        x.image(0);
+        x.drop();
+        x.saying(0, 9, -1);
+        x.saying(0, 1, 0);
+        due("24: behind it", x.soonest(0), 0);
+        x.restore(0);
+        due("24: not behind it any more", x.soonest(0), 1);
     }
 
     private static void promise25() {
