@@ -54,6 +54,7 @@ final class Checks {
         due(call + " changes nothing", everything(x).equals(before) ? 1 : 0, 1);
     }
 
+    /** What all calls answer that change nothing. */
     static String everything(SilentAfter x) {
         StringBuilder all = new StringBuilder();
         for (int what = 0; what <= 15; what++) {
@@ -63,8 +64,16 @@ final class Checks {
         for (int i = -2; i < 7; i++) {
             all.append(' ').append(x.soonest(i));
         }
+        all.append(" whom ").append(x.whom(9, 0)).append(' ').append(x.whom(9, 1));
         all.append(" fault ").append(x.fault()).append(" judge ").append(x.judge());
-        all.append(" filled ").append(x.filled(-1));
+        all.append(" behind ").append(x.behind(-1));
+        for (int person = 0; person < 6; person++) {
+            all.append(' ').append(x.behind(person)).append(' ').append(x.burns(person, 0));
+        }
+        all.append(" filled");
+        for (int i = -1; i < 3; i++) {
+            all.append(' ').append(x.filled(i));
+        }
         return all.toString();
     }
 }

@@ -4,6 +4,7 @@ import java.util.Random;
 /** Long runs of calls, drawn by told seeds, against the slow model. Arguments: first seed, number of runs. */
 public final class RandomRunsTest {
     private static final int MOST_CALLS = 512;
+    private static final int NOT_ASKED = -1000;
     private static final int[] STRANGE = {-1, -2, 6, 7, 8, 99, 100, 999, 1000, -100, Integer.MIN_VALUE, Integer.MAX_VALUE};
 
     private final Checks checks;
@@ -123,9 +124,9 @@ public final class RandomRunsTest {
     private void seeAndForgetSpeakers() {
         for (int i = 0; i < 1 + random.nextInt(2); i++) {
             int person = random.nextInt(6);
-            int shown = program.behind(person);
+            long shown = call("behind", person);
             if (shown > 900) {
-                call("seen", person, shown - 1000);
+                call("seen", person, (int) shown - 1000);
             }
         }
         char[] signs = text.toString().toCharArray();
@@ -177,12 +178,14 @@ public final class RandomRunsTest {
         call("told", few(0, 15));
     }
 
-    private void call(String name, int... a) {
+    private long call(String name, int... a) {
         if (calls >= MOST_CALLS || checks.isWrong()) {
-            return;
+            return NOT_ASKED;
         }
         calls++;
-        checks.due("seed " + seed + ", call " + calls + ": " + name + Arrays.toString(a), answer(name, a), model.call(name, a));
+        long answer = answer(name, a);
+        checks.due("seed " + seed + ", call " + calls + ": " + name + Arrays.toString(a), answer, model.call(name, a));
+        return answer;
     }
 
     private long answer(String name, int[] a) {
