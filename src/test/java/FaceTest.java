@@ -24,7 +24,8 @@ public final class FaceTest {
     private static final String[] FIELDS = {"int NONE", "int UNKNOWN", "int OUTSIDE", "int STATE", "int FULL", "int NO",
         "long LOST"};
     private static final String[] RULED_OUT = {"import ", "try ", "catch ", "finally", "throw ", "assert", "synchronized",
-        "System.", "Exact", "->", "::", "double", "float", "Object", "package "};
+        "System.", "Exact", "->", "::", "double", "float", "Object", "package ", "String", "Integer", "Long", "List", "clone",
+        "Arrays"};
 
     private static void holds(String what, boolean right) {
         CHECKS.due(what, right ? 1 : 0, 1);
